@@ -1110,7 +1110,10 @@ public final class SwapChoices {
                 openCount = openBy(state.on, open);
                 Arrays.fill(places, NONE);
                 for (int place = 0; place < state.walked; place++) {
-                    places[state.trail[place]] = place;
+                    int choice = state.trail[place];
+                    if (choice >= 0 && choice < places.length) {
+                        places[choice] = place;
+                    }
                 }
                 looked = true;
             }
@@ -1494,7 +1497,8 @@ public final class SwapChoices {
         void split(byte[] bytes, int length) {
             error = 0;
             errorAt = NONE;
-            at = 0;
+            // The first pass goes to the first token.
+            at = -1;
             count = 0;
             int before = BLANK;
             for (int i = 0; i < length && i < MOST_BYTES && i < bytes.length; i++) {
@@ -1507,7 +1511,7 @@ public final class SwapChoices {
             }
             put(END, length, 0, false);
             markKeywords();
-            look();
+            pass();
         }
 
         private static int kindOf(int sign) {
@@ -1550,15 +1554,11 @@ public final class SwapChoices {
             }
         }
 
-        private void look() {
+        void pass() {
+            at++;
             boolean there = at >= 0 && at < count;
             kind = there ? kinds[at] : END;
             value = there ? values[at] : 0;
-        }
-
-        void pass() {
-            at++;
-            look();
         }
 
         boolean fail(int code) {

@@ -794,6 +794,9 @@ public final class PromisesTest {
         for (int m : FAR_OUT) dueThrow("swapsToEnd(" + m + ")", ILLEGAL, () -> y.swapsToEnd(m));
         dueThrow("swapsToEnd(3)", ILLEGAL, () -> y.swapsToEnd(3));
         promise = 22;
+        // 1 b c (5), 2 a c (14), 4 b d (1): 1 2 4 takes 1 + 2, by weight 4 1 2 takes 1 + 1.
+        due("bestMode by weight", of("choose 2;thing a 9;thing b 0;thing c 5;thing d 1;"
+            + "rule number = 1 or number = 2 or number = 4;").bestMode(), 2);
         SwapChoices light = of("choose 3;thing a 0;thing b 1;thing c 50;thing d 9;thing e 0;thing f 40;"
             + "rule number = 0 or number = 10 or number = 5 or number = 12 or number = 17;");
         int best = 0;
@@ -903,6 +906,10 @@ public final class PromisesTest {
         promise = 30;
         due("bridge of all", new SwapChoices().bridge(), 0);
         due("bridge of a chain", of(FOUR + "strike a c;strike b d;strike a d;").bridge(), 1);
+        SwapChoices changed = new SwapChoices();
+        changed.bridge();
+        for (int c : new int[] {1, 2, 4, 5}) changed.strike(c, true);
+        due("bridge after what it was before", changed.bridge(), 0);
         due("bridge of none", of(FOUR + "rule weight > 99;").bridge(), -1);
         due("bridge of two apart", of(FOUR + "rule number = 0 or number = 3;").bridge(), 0);
         due("bridge of one alone", of(FOUR + "rule number = 4;").bridge(), 4);
@@ -1105,6 +1112,14 @@ public final class PromisesTest {
         due("dropRule", x.dropRule(0), 9);
         due("addRule of what stayed", x.addRule(1), 9);
         due("allowed", x.size(3), 2);
+        SwapChoices often = new SwapChoices();
+        for (int i = 0; i < 80; i++) {
+            add(often, "b or c or b or c or b or c or b or c or b or c");
+            often.dropRule(0);
+        }
+        add(often, "a");
+        due("allowed after many tests", often.size(3), 3);
+        due("tokens after many tests", often.rule(0, 3), 1);
         due("a long test", add(new SwapChoices(), "a or b or c or d or a or b or c or d or a or b or c or d or a or b or c "
             + "or d or a or b or c or d or a or b or c or d or a or b or c or d or a or b or c or d or a or b or c or d "
             + "or a or b or c or d or a or b or c or d or a or b or c or d or a or b or c or d"), 0);

@@ -43,7 +43,8 @@ public final class RandomRunsTest {
         int runs = args.length > 0 ? Integer.parseInt(args[0]) : 600;
         int wrong = 0;
         for (int seed = 0; seed < runs && wrong < 5; seed++) {
-            RandomRunsTest run = new RandomRunsTest(seed, seed % 25 == 24 ? 10 : seed % 5 == 4 ? 7 : 5);
+            int most = args.length > 2 ? Integer.parseInt(args[2]) : seed % 25 == 24 ? 10 : seed % 5 == 4 ? 7 : 5;
+            RandomRunsTest run = new RandomRunsTest(seed, most);
             if (!run.goes()) wrong++;
         }
         if (args.length > 1) System.out.println(SEEN);
