@@ -2,34 +2,15 @@ import java.util.NoSuchElementException;
 
 /**
  * For each promise of the document calls with the answers that it asks for, worked out by hand.
- *
- * The choices of a new object, with weights: 0 a b (3), 1 b c (5), 2 a c (4), 3 c d (7), 4 b d (6), 5 a d (5).
- * All are neighbours but 0 and 3, 1 and 5, 2 and 4.
  */
-public final class PromisesTest {
-    private static final String NOTHING = "nothing";
-    private static final String NO_SUCH = "NoSuchElementException";
-    private static final String ILLEGAL = "IllegalArgumentException";
-    private static final String THREE = "choose 2;thing a 1;thing b 2;thing c 3;";
-    private static final String FOUR = "choose 2;thing a 1;thing b 2;thing c 3;thing d 4;";
-    private static final int[] FAR_OUT = {Integer.MIN_VALUE, -2, -1, Integer.MAX_VALUE};
-
-    private static int promise = 0;
-    private static int passed = 0;
-    private static int failed = 0;
-
-    interface Call {
-        Object make();
-    }
-
+public final class PromisesTest extends Checks {
     public static void main(String[] args) {
         texts();
         asks();
         walks();
         operations();
         tail();
-        System.out.println(passed + " passed, " + failed + " failed");
-        if (failed != 0) System.exit(1);
+        finish();
     }
 
     private static void texts() {
@@ -80,96 +61,6 @@ public final class PromisesTest {
         undoRestores();
         snapshot();
         constants();
-    }
-
-    // ---- helpers
-
-    private static void due(String call, Object got, Object want) {
-        if (got.equals(want)) {
-            passed++;
-        } else {
-            failed++;
-            System.out.println("promise " + promise + ": " + call + " answered " + got + ", due is " + want);
-        }
-    }
-
-    private static void dueThrow(String call, String want, Call made) {
-        String got = NOTHING;
-        try {
-            made.make();
-        } catch (RuntimeException e) {
-            got = e.getClass().getSimpleName();
-        }
-        due(call + " throws", got, want);
-    }
-
-    private static SwapChoices fed(SwapChoices x, String text) {
-        StringBuilder padded = new StringBuilder(text);
-        while (padded.length() % 20 != 0) padded.append(' ');
-        for (int at = 0; at < padded.length(); at += 20) {
-            int[] five = new int[5];
-            for (int i = 0; i < 20; i++) five[i / 4] = five[i / 4] << 8 | padded.charAt(at + i);
-            x.feed(five[0], five[1], five[2], five[3], five[4]);
-        }
-        return x;
-    }
-
-    private static int load(SwapChoices x, String text) {
-        return fed(x, text).load(text.length());
-    }
-
-    private static int add(SwapChoices x, String text) {
-        return fed(x, text).addRule(text.length());
-    }
-
-    private static int many(SwapChoices x, String text, boolean allowed) {
-        return fed(x, text).many(text.length(), allowed);
-    }
-
-    private static SwapChoices of(String text) {
-        SwapChoices x = new SwapChoices();
-        int allowed = load(x, text);
-        if (allowed < 0) due("load of " + text, allowed, "no error");
-        return x;
-    }
-
-    private static void dueError(String text, int code, int at) {
-        SwapChoices x = new SwapChoices();
-        due("load of " + text, load(x, text), -10 - code);
-        due("errorPosition after " + text, x.errorPosition(), at);
-        due("things after " + text, x.size(0), 4);
-    }
-
-    private static void dueTestError(String text, int code, int at) {
-        SwapChoices x = new SwapChoices();
-        due("addRule of " + text, add(x, text), -10 - code);
-        due("errorPosition after " + text, x.errorPosition(), at);
-        due("rules after " + text, x.size(6), 0);
-        due("many of " + text, many(x, text, false), -1000000 - code);
-        due("errorPosition after many of " + text, x.errorPosition(), at);
-        String rule = FOUR + "rule " + text + ";";
-        // An error at the end of a test lies at the ; behind it.
-        due("load of " + rule, load(x, rule), -10 - code);
-        due("errorPosition after " + rule, x.errorPosition(), FOUR.length() + 5 + at);
-    }
-
-    private static String shown(SwapChoices x, int choice) {
-        StringBuilder text = new StringBuilder();
-        int length = x.format(choice);
-        for (int i = 0; i < length; i++) text.append((char) x.formattedByte(i));
-        return text.toString();
-    }
-
-    /** Which choices a test holds for, as a text of their numbers. */
-    private static String heldFor(SwapChoices x, String test) {
-        int rule = add(x, test);
-        if (rule < 0) return "error " + rule;
-        StringBuilder held = new StringBuilder();
-        for (int c = 0; c < x.size(2); c++) {
-            if (x.holds(rule, c)) held.append(c);
-        }
-        x.dropRule(rule);
-        return held.toString();
     }
 
     // ---- promises 1 to 4
@@ -1118,7 +1009,7 @@ public final class PromisesTest {
             often.dropRule(0);
         }
         add(often, "a");
-        due("allowed after many tests", often.size(3), 3);
+        due("allowed after many tests", allowed(often), "025");
         due("tokens after many tests", often.rule(0, 3), 1);
         due("a long test", add(new SwapChoices(), "a or b or c or d or a or b or c or d or a or b or c or d or a or b or c "
             + "or d or a or b or c or d or a or b or c or d or a or b or c or d or a or b or c or d or a or b or c or d "
@@ -1297,21 +1188,6 @@ public final class PromisesTest {
             due("feed", x.feed(0, 0, 0, 0, 0), fed + 20);
             x.many(0, true);
         }
-    }
-
-    /** All that can be seen of a state. */
-    private static String all(SwapChoices x) {
-        StringBuilder text = new StringBuilder();
-        for (int what = 0; what < 14; what++) text.append(x.size(what)).append(' ');
-        for (int t = 0; t < x.size(0); t++) text.append(x.weight(t)).append(' ');
-        for (int c = 0; c < x.size(2); c++) {
-            for (int what = 0; what < 10; what++) text.append(x.choice(c, what)).append(' ');
-            text.append(x.why(c)).append(' ').append(x.against(c)).append(' ');
-        }
-        for (int r = 0; r < x.size(6); r++) {
-            for (int what = 0; what < 4; what++) text.append(x.rule(r, what)).append(' ');
-        }
-        return text.toString();
     }
 
     private static void snapshot() {
