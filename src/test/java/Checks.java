@@ -157,9 +157,8 @@ abstract class Checks {
         int rule = add(x, test);
         if (rule < 0) return "error " + rule;
         StringBuilder held = new StringBuilder();
-        for (int c = 0; c < x.size(2); c++) {
-            if (x.holds(rule, c)) held.append(c);
-        }
+        int choices = x.size(2);
+        for (int c = 0; c < choices; c++) if (x.holds(rule, c)) held.append(c);
         x.dropRule(rule);
         return held.toString();
     }

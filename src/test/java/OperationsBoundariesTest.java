@@ -29,6 +29,8 @@ public final class OperationsBoundariesTest extends Checks {
             + "and the snapshot.", OperationsBoundariesTest::undoing);
         sentence("NoSuchElementException is thrown if there is no such choice, thing or rule.",
             OperationsBoundariesTest::noSuchElement);
+        sentence("`NONE = -1`: There is no such value. `HIDDEN = -1000000`: Error results of many start here.",
+            OperationsBoundariesTest::constants);
         sentence("An object is used for at most 512 calls after it has been made;", OperationsBoundariesTest::manyCalls);
     }
 
@@ -421,6 +423,15 @@ public final class OperationsBoundariesTest extends Checks {
             dueThrow("call " + i + " of the " + kind + " " + (last + 1), NO_SUCH, () -> call.by(last + 1));
             dueThrow("call " + i + " of the last " + kind, NOTHING, () -> call.by(last));
         }
+    }
+
+    private static void constants() {
+        due("NONE", SwapChoices.NONE, -1);
+        due("HIDDEN", SwapChoices.HIDDEN, -1000000);
+        due("no NOW", new SwapChoices().size(9), SwapChoices.NONE);
+        due("the smallest error of many", many(new SwapChoices(), ";", true), SwapChoices.HIDDEN - 1);
+        due("the greatest error of many", many(new SwapChoices(), "(((((((", true), SwapChoices.HIDDEN - 7);
+        due("the smallest answer of many", many(new SwapChoices(), "number > 5", true), 0);
     }
 
     private static void manyCalls() {

@@ -448,17 +448,18 @@ public final class PromisesTest extends Checks {
     }
 
     private static void everyChoiceOnce(int k) {
-        SwapChoices x = of("choose " + k + ";thing a 1;thing b 1;thing c 1;thing d 1;thing e 1;thing f 1;thing g 1;"
-            + "thing h 1;thing i 1;thing j 1;");
+        SwapChoices x = of(text(k, 10));
         int choices = x.size(2);
         int found = 0;
         int swaps = 0;
+        for (int c = 0; c < choices; c++) swaps += x.distance(c, (c + 1) % choices);
         for (int bits = 0; bits < 1024; bits++) {
+            // An object has but 512 calls.
+            if (bits % 200 == 0) x = of(text(k, 10));
             int number = x.numberOf(bits);
             if ((number >= 0) != (Integer.bitCount(bits) == k)) due("numberOf(" + bits + ")", number, "another one");
             if (number >= 0 && x.choice(number, 0) == bits) found++;
         }
-        for (int c = 0; c < choices; c++) swaps += x.distance(c, (c + 1) % choices);
         due("choices of " + k, found, choices);
         due("swaps round by " + k, swaps, choices);
     }
@@ -1156,11 +1157,11 @@ public final class PromisesTest extends Checks {
 
     private static void undoRestores() {
         promise = 48;
-        SwapChoices x = of(FOUR + "rule a or b;rule weight < 7;");
-        x.step();
         String[] operations = {"step", "steps", "swap", "back", "reset", "setMode", "setWeight", "addRule", "dropRule",
             "switchRule", "strike"};
         for (String operation : operations) {
+            SwapChoices x = of(FOUR + "rule a or b;rule weight < 7;");
+            x.step();
             String before = all(x);
             fed(x, "c or d");
             switch (operation) {

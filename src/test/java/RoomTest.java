@@ -58,7 +58,7 @@ public final class RoomTest {
     private static void rules() {
         SwapChoices x = new SwapChoices();
         String test = "a or b or c or d and a or b or c or d or";
-        for (int i = 0; i < 170; i++) {
+        for (int i = 0; i < 128; i++) {
             feed(x, test);
             x.addRule(37);
             if (i > 8) x.dropRule(0);

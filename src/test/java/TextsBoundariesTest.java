@@ -20,6 +20,7 @@ public final class TextsBoundariesTest extends Checks {
         sentence("The bytes 32 and 10 separate tokens and are otherwise ignored.", TextsBoundariesTest::blankBytes);
         sentence("Every other byte is an invalid token.", TextsBoundariesTest::everyByte);
         sentence("text: 'choose' K ['mode' MODE] ';' thing thing* clause*", TextsBoundariesTest::clausesOrNone);
+        sentence("A name alone holds if its thing is chosen;", TextsBoundariesTest::nameAlone);
         sentence("'all', 'any' and 'none' if all, some and none of the things are;", TextsBoundariesTest::lists);
         sentence("'most' and 'least' if at most, at least so many of them are", TextsBoundariesTest::limits);
         sentence("(a name that is told twice in one list counts once)", TextsBoundariesTest::toldTwice);
@@ -156,6 +157,14 @@ public final class TextsBoundariesTest extends Checks {
         dueError("mode 1;choose 1;", 1, 0);
     }
 
+    private static void nameAlone() {
+        SwapChoices x = of(text(1, 10));
+        due("the first thing", heldFor(x, "a"), "0");
+        due("the last thing", heldFor(x, "j"), "9");
+        due("all but the last thing", of(text(9, 10) + "rule not j;").size(3), 1);
+        due("the last thing in 9 of 10", of(text(9, 10) + "rule j;").size(3), 9);
+    }
+
     private static void lists() {
         SwapChoices x = of(text(2, 4));
         due("all of one", heldFor(x, "all(a)"), "025");
@@ -166,7 +175,6 @@ public final class TextsBoundariesTest extends Checks {
         due("none of one", heldFor(x, "none(a)"), "134");
         due("none of two", heldFor(x, "none(a b)"), "3");
         due("none of three", heldFor(x, "none(a b c)"), "");
-        due("a name alone", heldFor(x, "d"), "345");
         dueTestError("all()", 1, 4);
         dueTestError("any ( )", 1, 6);
         dueTestError("none(", 1, 5);
