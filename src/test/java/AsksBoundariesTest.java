@@ -594,6 +594,11 @@ public final class AsksBoundariesTest extends Checks {
         due("rule holds for none", of(FOUR + "rule number > 5;").rule(0, 1), 0);
         due("rule holds for all", of(FOUR + "rule number < 6;").rule(0, 1), 6);
         due("rule leaves all out", of(FOUR + "rule number > 5;").rule(0, 2), 6);
+        SwapChoices longer = of(text(5, 10) + "rule weight = 0;");
+        due("rule holds for none of 252", longer.rule(0, 1), 0);
+        due("rule leaves out 252", longer.rule(0, 2), 252);
+        load(longer, FOUR + "rule weight = 0;");
+        due("rule leaves out 6 behind a longer order", longer.rule(0, 2), 6);
     }
 
     private static void ruleThatThrows() {
@@ -825,6 +830,15 @@ public final class AsksBoundariesTest extends Checks {
         // From 4 b d to 5 a d: 0 a b has a smaller number and is a neighbour, but is as far from 5 as 4 is.
         due("not one that is as far away", new SwapChoices().toward(4, 5), 5);
         due("not one that is as far away", new SwapChoices().toward(3, 4), 4);
+        for (int other : new int[] {0, 1, 100, 200, 250}) {
+            SwapChoices big = of(text(5, 10));
+            int first = big.toward(251, other);
+            due("a neighbour of 251 toward " + other, big.distance(251, first), 1);
+            due("it is nearer", big.far(first, other), big.far(251, other) - 1);
+            for (int c = 0; c < first; c++) {
+                if (big.distance(251, c) == 1 && big.distance(c, other) < big.distance(251, other)) due("one before it", c, first);
+            }
+        }
         // In 2 of 5 from 5 a d to 2 a c: 0 a b, a neighbour of both, is no nearer.
         due("the other one itself", of(text(2, 5)).toward(5, 2), 2);
     }
@@ -951,6 +965,16 @@ public final class AsksBoundariesTest extends Checks {
         due("one apart counts less than one that keeps nothing together", of(text(2, 5) + "rule all(a b) or all(c d) or all(c e);")
             .bridge(), bestByTrying(text(2, 5) + "rule all(a b) or all(c d) or all(c e);"));
         due("all of them", new SwapChoices().bridge(), 0);
+        due("all of 252", of(text(5, 10)).bridge(), 0);
+        due("of 251", of(text(5, 10) + "strike a b c d e;").bridge(), 1);
+        // Those without j, and f g h i j, which has five neighbours among them, and then one.
+        SwapChoices tail = of(text(5, 10) + "rule not j or all(f g h i j);");
+        int end = tail.numberOf(31 << 5);
+        due("parts with one at the end", tail.size(12), 1);
+        due("its neighbours", tail.choice(end, 8), 5);
+        for (int t = 0; t < 4; t++) tail.strike(tail.swapped(end, 9, t), true);
+        due("one neighbour is left", tail.choice(end, 8), 1);
+        due("that one is the bridge", tail.bridge(), tail.swapped(end, 9, 4));
         String[] rings = {"all(a b) or all(b c) or all(c d) or all(d e) or all(e f) or all(a f)",
             "all(a b) or all(b c) or all(c d) or all(a d) or all(d e) or all(e f)",
             "all(a b) or all(b c) or all(c d) or all(d e) or all(e f)",
