@@ -592,8 +592,7 @@ public final class SwapChoices {
             return -2;
         }
         takeBuffer(length);
-        testReader.begin(order);
-        boolean good = testReader.readWhole();
+        boolean good = testReader.readWhole(order);
         errorAt = tokens.errorAt;
         if (!good) {
             return -10 - tokens.error;
@@ -637,8 +636,7 @@ public final class SwapChoices {
             throw new IllegalArgumentException();
         }
         takeBuffer(length);
-        testReader.begin(order);
-        boolean good = testReader.readWhole();
+        boolean good = testReader.readWhole(order);
         errorAt = tokens.errorAt;
         if (!good) {
             return HIDDEN - tokens.error;
@@ -788,25 +786,25 @@ public final class SwapChoices {
         void lay() {
             choices = 0;
             Arrays.fill(numbers, NONE);
-            list(things, chosen, 0, false);
+            list(this, things, chosen, 0, false);
         }
 
         // The choices of j of the first m things, each with the things above; m becomes 1 less, so it ends.
-        private void list(int m, int j, int above, boolean backwards) {
+        private static void list(Order to, int m, int j, int above, boolean backwards) {
             if (j < 0 || j > m || m > MOST_THINGS) {
                 return;
             }
             if (j == 0 || j == m) {
-                put(above | (1 << j) - 1);
+                to.put(above | (1 << j) - 1);
                 return;
             }
             int last = above | 1 << m - 1;
             if (backwards) {
-                list(m - 1, j - 1, last, false);
-                list(m - 1, j, above, true);
+                list(to, m - 1, j - 1, last, false);
+                list(to, m - 1, j, above, true);
             } else {
-                list(m - 1, j, above, false);
-                list(m - 1, j - 1, last, true);
+                list(to, m - 1, j, above, false);
+                list(to, m - 1, j - 1, last, true);
             }
         }
 
@@ -1249,12 +1247,12 @@ public final class SwapChoices {
 
         private int findNear(int mode) {
             int best = 0;
-            int least = Integer.MAX_VALUE;
+            int least = 0;
             for (int i = 0; i < count; i++) {
                 int apart = distanceTo(left[i]);
                 // A distance is at most 9, so that the weight counts first.
                 int cost = mode == LAST_MODE ? rows.weights[left[i]] * 16 + apart : apart;
-                if (cost < least) {
+                if (i == 0 || cost < least) {
                     best = i;
                     least = cost;
                 }
@@ -1619,18 +1617,26 @@ public final class SwapChoices {
             this.order = order;
         }
 
-        void begin(Order whose) {
+        /** Reads a test that is the whole text. */
+        boolean readWhole(Order whose) {
+            begin(whose);
+            return readTest(0) && (tokens.kind == END || tokens.fail(NOT_ALLOWED_HERE));
+        }
+
+        /** Reads a test and the sign behind it. */
+        boolean readUpTo(int sign, Order whose) {
+            begin(whose);
+            return readTest(0) && tokens.needsSign(sign);
+        }
+
+        private void begin(Order whose) {
             order = whose;
             from = tokens.at;
             made.clear();
         }
 
-        boolean readWhole() {
-            return readTest(0) && (tokens.kind == END || tokens.fail(NOT_ALLOWED_HERE));
-        }
-
         // A round of a loop passes a token at least, and a text has no more than MOST_BYTES.
-        boolean readTest(int open) {
+        private boolean readTest(int open) {
             for (int conjunctions = 0; conjunctions < MOST_BYTES; conjunctions++) {
                 for (int factors = 0; factors < MOST_BYTES; factors++) {
                     if (!readFactor(open)) {
@@ -1769,9 +1775,13 @@ public final class SwapChoices {
             }
             // Each round passes a token at least.
             for (int i = 0; i < MOST_BYTES && tokens.kind != END; i++) {
-                boolean good = tokens.isWord(Word.RULE) ? readRule() : readStrike();
+                boolean isRule = tokens.isWord(Word.RULE);
+                boolean good = isRule ? opensRule() && testReader.readUpTo(';', order) : readStrike();
                 if (!good) {
                     return false;
+                }
+                if (isRule) {
+                    state.addTest(testReader.made.copied());
                 }
             }
             return true;
@@ -1836,16 +1846,11 @@ public final class SwapChoices {
             return tokens.needsSign(';');
         }
 
-        private boolean readRule() {
+        private boolean opensRule() {
             if (state.rules >= MOST_RULES) {
                 return tokens.fail(TOO_MANY);
             }
             tokens.pass();
-            testReader.begin(order);
-            if (!testReader.readTest(0) || !tokens.needsSign(';')) {
-                return false;
-            }
-            state.addTest(testReader.made.copied());
             return true;
         }
 
